@@ -18,16 +18,8 @@ public final class AnswersTest {
         }
     }
 
-    private static BitText flatI(int across, int down) {
-        BitText text = new BitText().head(across, down).picture(BitText.I, 8, 0);
-        for (int i = 0; i < across * down; i++) {
-            text.flat(0, 0, 0, 0, 0, 0);
-        }
-        return text.align();
-    }
-
     private static void looks() {
-        BitText text = flatI(3, 1).picture(BitText.P, 1, 1)
+        BitText text = BitText.flatI(3, 1).picture(BitText.P, 1, 1)
                 .u(1).raw("0 0 1 0 010010").u(1).s(3).u(4).s(-1).u(0).u(0)
                 .u(0).raw("1").flat(0, 0, 0, 0, 0, 0);
         ReelReader reader = BitText.readerOf(text.end());
@@ -40,7 +32,7 @@ public final class AnswersTest {
     }
 
     private static void looksWhereSomethingIsWrong() {
-        BitText head = flatI(3, 1).picture(BitText.P, 1, 1).u(1).raw("0 0 1 0 110000").u(1).s(3).u(0);
+        BitText head = BitText.flatI(3, 1).picture(BitText.P, 1, 1).u(1).raw("0 0 1 0 110000").u(1).s(3).u(0);
         String digits = head.toString();
         ReelReader reader = BitText.readerOf(head.u(1).s(1).u(2).s(0).align());
         reader.read();
@@ -49,7 +41,7 @@ public final class AnswersTest {
         reader.read();
         looksAre("beyond the last one", reader, 48, 16, 1, 1, 4, 1, 20, 1);
         // The first one of the run could be passed over, and yet none of them is.
-        reader = BitText.readerOf(flatI(2, 2).picture(BitText.P, 1, 1).u(4).align()
+        reader = BitText.readerOf(BitText.flatI(2, 2).picture(BitText.P, 1, 1).u(4).align()
                 .picture(BitText.B, 1, 1).u(0).raw("0 01 0 1 1").u(2).end());
         reader.read();
         looksAre("B beyond its row", reader, 32, 32, 2, 2, 5, 4, 24, 0);
@@ -65,7 +57,7 @@ public final class AnswersTest {
                 ReelReader reader = BitText.readerOf(new BitText().head(across, down).end());
                 reader.read();
                 looksAre("size", reader, 16 * across, 16 * down, 0, 0, 0, 0, 0, 0);
-                reader = BitText.readerOf(flatI(across, down).end());
+                reader = BitText.readerOf(BitText.flatI(across, down).end());
                 reader.read();
                 int count = across * down;
                 looksAre("size", reader, 16 * across, 16 * down, 1, 1, count, 0, 6 * count, 0);
@@ -80,7 +72,7 @@ public final class AnswersTest {
     }
 
     private static void shownEdges() {
-        ReelReader reader = BitText.readerOf(flatI(2, 1).picture(BitText.P, 1, 1).u(1).raw("1")
+        ReelReader reader = BitText.readerOf(BitText.flatI(2, 1).picture(BitText.P, 1, 1).u(1).raw("1")
                 .flat(1, 0, 0, 0, 0, 0).end());
         reader.read();
         int[][] wanted = {{1, 0, 2, 0}, {2, 1, 1, 1}};
@@ -98,7 +90,7 @@ public final class AnswersTest {
     }
 
     private static void dotEdges() {
-        ReelReader reader = BitText.readerOf(flatI(3, 2).end());
+        ReelReader reader = BitText.readerOf(BitText.flatI(3, 2).end());
         reader.read();
         int[][] good = {{0, 0, 0, 0}, {0, 0, 47, 31}, {0, 1, 23, 15}, {0, 2, 23, 15}, {0, 2, 0, 0}};
         for (int[] call : good) {

@@ -77,6 +77,15 @@ final class BitText {
         return text.toString();
     }
 
+    /** A stream's head and its first picture, all of it 128. */
+    static BitText flatI(int across, int down) {
+        BitText text = new BitText().head(across, down).picture(BitText.I, 8, 0);
+        for (int i = 0; i < across * down; i++) {
+            text.flat(0, 0, 0, 0, 0, 0);
+        }
+        return text.align();
+    }
+
     /** Gives the bits to a reader; the number of bits that the tape has then. */
     static int give(ReelReader reader, String bits) {
         int answer = 0;

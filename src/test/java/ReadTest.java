@@ -13,12 +13,8 @@ public final class ReadTest {
         checks.finish();
     }
 
-    static BitText oneFlat() {
-        return new BitText().head(1, 1).picture(BitText.I, 8, 0).flat(0, 0, 0, 0, 0, 0).align();
-    }
-
     private static void usesTheTapeUp() {
-        ReelReader reader = BitText.readerOf(oneFlat().end());
+        ReelReader reader = BitText.readerOf(BitText.flatI(1, 1).end());
         checks.due("read()", reader.read(), 1);
         checks.due("used up: end(1)", reader.end(1), false);
         checks.due("used up: bits", reader.bits(0, 5), 5);
@@ -28,7 +24,7 @@ public final class ReadTest {
     }
 
     private static void forgetsWhatWasShown() {
-        ReelReader reader = BitText.readerOf(oneFlat().end());
+        ReelReader reader = BitText.readerOf(BitText.flatI(1, 1).end());
         reader.read();
         checks.due("before: dot", reader.dot(0, 0, 0, 0), 128);
         reader.feed(0, 0, 0, 0, 0);
@@ -44,7 +40,7 @@ public final class ReadTest {
     }
 
     private static void countsMoreThanAreKept() {
-        BitText text = oneFlat();
+        BitText text = BitText.flatI(1, 1);
         for (int i = 1; i < 30; i++) {
             text.picture(BitText.P, 1, 1).u(1).align();
         }
@@ -79,7 +75,7 @@ public final class ReadTest {
     }
 
     private static void showsTheLatestWhereSomethingIsWrong() {
-        BitText text = oneFlat().picture(BitText.P, 1, 1).u(1).align().picture(BitText.B, 1, 1);
+        BitText text = BitText.flatI(1, 1).picture(BitText.P, 1, 1).u(1).align().picture(BitText.B, 1, 1);
         int at = text.length();
         ReelReader reader = BitText.readerOf(text.u(1).align());
         checks.due("wrong B: read()", reader.read(), 2);
@@ -97,7 +93,7 @@ public final class ReadTest {
     }
 
     private static void nothingBehindTheEndCounts() {
-        ReelReader reader = BitText.readerOf(oneFlat().end().raw("111").end());
+        ReelReader reader = BitText.readerOf(BitText.flatI(1, 1).end().raw("111").end());
         checks.due("behind the end: read()", reader.read(), 1);
         checks.due("behind the end: wrong()", reader.wrong(), ReelReader.NONE);
         reader = BitText.readerOf(new BitText().head(4, 3).end());

@@ -26,16 +26,8 @@ public final class WrongBitTest {
         checks.due(name + ": wrong() again", reader.wrong(), bit);
     }
 
-    private static BitText flatI(int across, int down) {
-        BitText text = new BitText().head(across, down).picture(BitText.I, 8, 0);
-        for (int i = 0; i < across * down; i++) {
-            text.flat(0, 0, 0, 0, 0, 0);
-        }
-        return text.align();
-    }
-
     private static BitText twoToLeanOn(int across, int down) {
-        return flatI(across, down).picture(BitText.P, 1, 1).u(across * down).align();
+        return BitText.flatI(across, down).picture(BitText.P, 1, 1).u(across * down).align();
     }
 
     private static void marks() {
@@ -59,22 +51,22 @@ public final class WrongBitTest {
             wrongAt("439 but bit " + i, new BitText().head(1, 1).number(439 ^ 1 << (31 - i), 32), bit);
         }
         wrongAt("mixed marks", new BitText().head(1, 1).number(0x137, 32), 50);
-        wrongAt("behind a picture", flatI(1, 1).number(255, 32), 80 + 23);
-        wrongAt("neither behind a picture", flatI(1, 1), 80);
-        wrongAt("half an end", flatI(1, 1).number(0, 16), 96);
-        wrongAt("an end", flatI(1, 1).end(), NONE);
+        wrongAt("behind a picture", BitText.flatI(1, 1).number(255, 32), 80 + 23);
+        wrongAt("neither behind a picture", BitText.flatI(1, 1), 80);
+        wrongAt("half an end", BitText.flatI(1, 1).number(0, 16), 96);
+        wrongAt("an end", BitText.flatI(1, 1).end(), NONE);
     }
 
     private static void heads() {
         wrongAt("SORT 0", new BitText().head(1, 1).number(256, 32).raw("00 00000 0"), 57);
         wrongAt("P without one", new BitText().head(1, 1).picture(BitText.P, 0, 0), 56);
         wrongAt("B without two", new BitText().head(1, 1).picture(BitText.B, 0, 0), 56);
-        wrongAt("B with one", flatI(1, 1).picture(BitText.B, 0, 0), 112);
+        wrongAt("B with one", BitText.flatI(1, 1).picture(BitText.B, 0, 0), 112);
         wrongAt("B with two", twoToLeanOn(1, 1).picture(BitText.B, 1, 1).u(0).raw("0 10 0").s(0).s(0).end(), NONE);
         wrongAt("a B does not count", twoToLeanOn(1, 1).end(), NONE);
         wrongAt("QUANT 0 of I", new BitText().head(1, 1).picture(BitText.I, 0, 0).raw("0"), 62);
-        wrongAt("QUANT 0 of P", flatI(1, 1).picture(BitText.P, 0, 1).raw("0"), 118);
-        wrongAt("SPAN 0 of P", flatI(1, 1).picture(BitText.P, 1, 0).raw("1"), 121);
+        wrongAt("QUANT 0 of P", BitText.flatI(1, 1).picture(BitText.P, 0, 1).raw("0"), 118);
+        wrongAt("SPAN 0 of P", BitText.flatI(1, 1).picture(BitText.P, 1, 0).raw("1"), 121);
         wrongAt("SPAN 0 of B", twoToLeanOn(1, 1).picture(BitText.B, 1, 0).raw("1"), 80 + 48 + 32 + 9);
         wrongAt("no SPAN of I", new BitText().head(1, 1).picture(BitText.I, 1, 0).flat(0, 0, 0, 0, 0, 0).end(), NONE);
     }
@@ -92,12 +84,12 @@ public final class WrongBitTest {
     }
 
     private static void unsignedZeros() {
-        BitText text = flatI(1, 1).picture(BitText.P, 1, 1);
+        BitText text = BitText.flatI(1, 1).picture(BitText.P, 1, 1);
         int begin = text.length();
         wrongAt("21 zeros", text.number(0, 21).raw("1").number(0, 32), begin + 20);
-        wrongAt("40 zeros", flatI(1, 1).picture(BitText.P, 1, 1).number(0, 32).number(0, 8), begin + 20);
-        wrongAt("20 zeros", flatI(1, 1).picture(BitText.P, 1, 1).number(0, 20).raw("1").number(0, 32), begin);
-        BitText cut = flatI(1, 1).picture(BitText.P, 1, 1).number(0, 20).raw("1").number(0, 10).align();
+        wrongAt("40 zeros", BitText.flatI(1, 1).picture(BitText.P, 1, 1).number(0, 32).number(0, 8), begin + 20);
+        wrongAt("20 zeros", BitText.flatI(1, 1).picture(BitText.P, 1, 1).number(0, 20).raw("1").number(0, 32), begin);
+        BitText cut = BitText.flatI(1, 1).picture(BitText.P, 1, 1).number(0, 20).raw("1").number(0, 10).align();
         wrongAt("20 zeros and an end of the tape", cut, cut.length());
         text = new BitText().head(1, 1).picture(BitText.I, 1, 0).raw("0");
         begin = text.length();
@@ -105,15 +97,15 @@ public final class WrongBitTest {
     }
 
     private static void passedOver() {
-        BitText text = flatI(2, 2).picture(BitText.P, 1, 1);
+        BitText text = BitText.flatI(2, 2).picture(BitText.P, 1, 1);
         int begin = text.length();
         wrongAt("four of four", text.u(4).end(), NONE);
-        wrongAt("five of four", flatI(2, 2).picture(BitText.P, 1, 1).u(5).end(), begin);
-        text = flatI(2, 2).picture(BitText.P, 1, 1).u(1).raw("000");
+        wrongAt("five of four", BitText.flatI(2, 2).picture(BitText.P, 1, 1).u(5).end(), begin);
+        text = BitText.flatI(2, 2).picture(BitText.P, 1, 1).u(1).raw("000");
         begin = text.length();
         wrongAt("three of the last two", text.u(3).end(), begin);
-        wrongAt("two of the last two", flatI(2, 2).picture(BitText.P, 1, 1).u(1).raw("000").u(2).end(), NONE);
-        wrongAt("no U behind the last one", flatI(2, 2).picture(BitText.P, 1, 1).u(3).raw("000").end(), NONE);
+        wrongAt("two of the last two", BitText.flatI(2, 2).picture(BitText.P, 1, 1).u(1).raw("000").u(2).end(), NONE);
+        wrongAt("no U behind the last one", BitText.flatI(2, 2).picture(BitText.P, 1, 1).u(3).raw("000").end(), NONE);
     }
 
     private static void passedOverInB() {
@@ -139,10 +131,10 @@ public final class WrongBitTest {
     private static void squares() {
         BitText text = twoToLeanOn(1, 1).picture(BitText.B, 1, 1).u(0).raw("0 0 0");
         wrongAt("neither way", text.raw("0 0000"), text.length() - 6);
-        text = flatI(1, 1).picture(BitText.P, 1, 1).u(0).raw("0 0 1 1 00000");
+        text = BitText.flatI(1, 1).picture(BitText.P, 1, 1).u(0).raw("0 0 1 1 00000");
         wrongAt("a new QUANT of 0", text.raw("1111 1111"), text.length() - 9);
-        wrongAt("neither MOVES nor CODED", flatI(1, 1).picture(BitText.P, 1, 1).u(0).raw("0 0 0").end(), NONE);
-        wrongAt("CODED without a block", flatI(1, 1).picture(BitText.P, 1, 1).u(0).raw("0 0 1 0 000000").end(), NONE);
+        wrongAt("neither MOVES nor CODED", BitText.flatI(1, 1).picture(BitText.P, 1, 1).u(0).raw("0 0 0").end(), NONE);
+        wrongAt("CODED without a block", BitText.flatI(1, 1).picture(BitText.P, 1, 1).u(0).raw("0 0 1 0 000000").end(), NONE);
     }
 
     private static void vectors() {
@@ -151,10 +143,10 @@ public final class WrongBitTest {
             int[] steps = {-half - 1, -half, half - 1, half};
             for (int i = 0; i < steps.length; i++) {
                 boolean good = i == 1 || i == 2;
-                BitText text = flatI(1, 1).picture(BitText.P, 1, span).u(0).raw("0 1 0");
+                BitText text = BitText.flatI(1, 1).picture(BitText.P, 1, span).u(0).raw("0 1 0");
                 int begin = text.length();
                 wrongAt("across " + steps[i], text.s(steps[i]).s(0).end(), good ? NONE : begin);
-                text = flatI(1, 1).picture(BitText.P, 1, span).u(0).raw("0 1 0").s(7);
+                text = BitText.flatI(1, 1).picture(BitText.P, 1, span).u(0).raw("0 1 0").s(7);
                 begin = text.length();
                 wrongAt("down " + steps[i], text.s(steps[i]).end(), good ? NONE : begin);
                 text = twoToLeanOn(1, 1).picture(BitText.B, 1, span).u(0).raw("0 11 0").s(7).s(-8).s(5);
@@ -212,7 +204,7 @@ public final class WrongBitTest {
 
     /** A P square of which the first block alone is coded. */
     private static BitText coded() {
-        return flatI(1, 1).picture(BitText.P, 1, 1).u(0).raw("0 0 1 0 100000");
+        return BitText.flatI(1, 1).picture(BitText.P, 1, 1).u(0).raw("0 0 1 0 100000");
     }
 
     private static void aligns() {
@@ -220,7 +212,7 @@ public final class WrongBitTest {
             BitText text = new BitText().head(1, 1).picture(BitText.I, 8, 0).flat(0, 0, 0, 0, 0, 0);
             wrongAt("align behind I", text.number(8 >> i, 4).end(), 76 + i);
         }
-        BitText text = flatI(1, 1).picture(BitText.P, 1, 1).u(1);
+        BitText text = BitText.flatI(1, 1).picture(BitText.P, 1, 1).u(1);
         wrongAt("align behind P", text.raw("001").end(), text.length() - 33);
     }
 }
