@@ -4,7 +4,11 @@ final class BitText {
     static final int P = 2;
     static final int B = 3;
 
+    /** What one feed() takes, in bits. */
+    private static final int FEED = 160;
+
     private final StringBuilder text = new StringBuilder();
+    private int place;
 
     /** Digits as they stand; blanks are left out. */
     BitText raw(String digits) {
@@ -64,8 +68,23 @@ final class BitText {
         return this;
     }
 
+    /** An INNER square, behind its first bits, with nothing new in it. */
+    BitText flat() {
+        return flat(0, 0, 0, 0, 0, 0);
+    }
+
     BitText end() {
         return align().number(439, 32);
+    }
+
+    /** Keeps this place in mind. */
+    BitText here() {
+        place = text.length();
+        return this;
+    }
+
+    int place() {
+        return place;
     }
 
     int length() {
@@ -79,21 +98,40 @@ final class BitText {
 
     /** A stream's head and its first picture, all of it 128. */
     static BitText flatI(int across, int down) {
-        BitText text = new BitText().head(across, down).picture(BitText.I, 8, 0);
+        BitText text = new BitText().head(across, down).picture(I, 8, 0);
         for (int i = 0; i < across * down; i++) {
-            text.flat(0, 0, 0, 0, 0, 0);
+            text.flat();
         }
         return text.align();
     }
 
-    /** Gives the bits to a reader; the number of bits that the tape has then. */
-    static int give(ReelReader reader, String bits) {
-        int answer = 0;
-        for (int at = 0; at < bits.length(); at += 32) {
-            int to = Math.min(bits.length(), at + 32);
-            answer = reader.bits((int) Long.parseLong(bits.substring(at, to), 2), to - at);
+    /** The same, with a P that is like it, so that a B can come. */
+    static BitText twoToLeanOn(int across, int down) {
+        return flatI(across, down).picture(P, 1, 1).u(across * down).align();
+    }
+
+    /** A P of one square behind a flat I of 128; its first block alone is coded, and comes next. */
+    static BitText codedFirst(int quant) {
+        return flatI(1, 1).picture(P, quant, 1).u(0).raw("0 0 1 0 100000");
+    }
+
+    /** Gives the bits to a reader with an even tape, in few calls: an object has only 512. */
+    static void give(ReelReader reader, String bits) {
+        int at = 0;
+        while (at + FEED <= bits.length()) {
+            reader.feed(word(bits, at, 32), word(bits, at + 32, 32), word(bits, at + 64, 32),
+                    word(bits, at + 96, 32), word(bits, at + 128, 32));
+            at += FEED;
         }
-        return answer;
+        while (at < bits.length()) {
+            int count = Math.min(32, bits.length() - at);
+            reader.bits(word(bits, at, count), count);
+            at += count;
+        }
+    }
+
+    private static int word(String bits, int at, int count) {
+        return (int) Long.parseLong(bits.substring(at, at + count), 2);
     }
 
     static ReelReader readerOf(BitText stream) {

@@ -1,24 +1,42 @@
 /** Promises 5 to 10: streams by chance, whole, slipped, flipped and cut, against the plain model. */
 public final class ModelTest {
     private static final Checks checks = new Checks("model");
+    /** No object is asked more often. */
+    private static final int MOST_CALLS = 512;
+    private static final int DOTS = 50;
+    /** Those behind the tape's: read(), wrong(), look(), and shown() and sum() of 20 and one more. */
+    private static final int CALLS = 2 + 8 + 21 * (4 + 3) + DOTS;
+
+    private static ReelReader reader = new ReelReader();
+    private static int calls;
     private static int whole;
     private static int wrong;
+    private static int usedAgain;
 
     public static void main(String[] args) {
-        int limit = args.length > 0 ? Integer.parseInt(args[0]) : 1500;
-        ReelReader used = new ReelReader();
+        int limit = args.length > 0 ? Integer.parseInt(args[0]) : 3000;
         for (int seed = 0; seed < limit && checks.failures() == 0; seed++) {
             Chance chance = new Chance(seed);
-            // Mostly an object that has read other streams, of other sizes, already.
-            if (chance.oneIn(3)) {
-                used = new ReelReader();
-            }
             String bits = spoiled(stream(chance), chance);
-            compare(seed, used, bits);
+            takeReader(bits);
+            compare("stream " + seed + ": ", bits, chance);
         }
         checks.due("enough whole streams", whole > limit / 10, true);
         checks.due("enough wrong streams", wrong > limit / 10, true);
+        checks.due("enough objects that have read other streams", usedAgain > limit / 10, true);
         checks.finish();
+    }
+
+    /** The one that has read another stream, of another size, if it has calls enough left. */
+    private static void takeReader(String bits) {
+        int needed = bits.length() / 160 + 5 + CALLS;
+        if (calls + needed > MOST_CALLS) {
+            reader = new ReelReader();
+            calls = 0;
+        } else {
+            usedAgain++;
+        }
+        calls += needed;
     }
 
     private static String stream(Chance chance) {
@@ -31,7 +49,7 @@ public final class ModelTest {
         }
         int slip = chance.oneIn(2) ? 0 : chance.from(100, 2000);
         int pictures = chance.oneIn(8) ? chance.from(15, 40) : chance.from(0, 8);
-        String bits = new RandomStream(chance, slip).make(pictures);
+        String bits = new RandomStream(chance, slip).write(pictures).toString();
         return bits.length() > 32000 ? bits.substring(0, 32000) : bits;
     }
 
@@ -50,51 +68,59 @@ public final class ModelTest {
         return bits;
     }
 
-    private static void compare(int seed, ReelReader reader, String bits) {
+    private static void compare(String run, String bits, Chance chance) {
         PlainModel model = new PlainModel(bits);
         if (model.wrong == -1) {
             whole++;
         } else {
             wrong++;
         }
-        String run = "stream " + seed + ": ";
         BitText.give(reader, bits);
         checks.due(run + "read()", reader.read(), model.shown.size());
         checks.due(run + "wrong()", reader.wrong(), model.wrong);
-        for (int what = 0; what < 8; what++) {
-            checks.due(run + "look(" + what + ")", Checks.look(reader, what), model.look[what]);
+        checks.looks(run, reader, model.look);
+        int kept = Math.min(20, model.shown.size());
+        for (int k = 0; k <= kept; k++) {
+            comparePicture(run, k, k < kept ? model.shown.get(k) : null);
         }
-        for (int k = 0; k < 25; k++) {
-            boolean kept = k < 20 && k < model.shown.size();
-            PlainModel.Still still = kept ? model.shown.get(k) : null;
-            int none = Checks.THROWS;
-            checks.due(run + "sort " + k, Checks.shown(reader, k, 0), kept ? still.sort : none);
-            checks.due(run + "number " + k, Checks.shown(reader, k, 1), kept ? still.number : none);
-            checks.due(run + "inner " + k, Checks.shown(reader, k, 2), kept ? still.inner : none);
-            checks.due(run + "passed " + k, Checks.shown(reader, k, 3), kept ? still.passed : none);
-            for (int plane = 0; plane < 3; plane++) {
-                comparePlane(run, reader, k, plane, kept ? still.dots[plane] : null);
-            }
+        for (int i = 0; i < DOTS && kept > 0; i++) {
+            int k = chance.below(kept);
+            compareDot(run, k, model.shown.get(k), chance);
         }
     }
 
-    private static void comparePlane(String run, ReelReader reader, int k, int plane, int[][] dots) {
-        if (dots == null) {
-            checks.due(run + "no dot", reader.dot(k, plane, 0, 0), ReelReader.NONE);
-            checks.due(run + "no sum", reader.sum(k, plane), ReelReader.NONE);
-            return;
+    private static void comparePicture(String run, int k, PlainModel.Still still) {
+        int none = Checks.THROWS;
+        checks.due(run + "SORT of " + k, Checks.shown(reader, k, 0), still == null ? none : still.sort);
+        checks.due(run + "number of " + k, Checks.shown(reader, k, 1), still == null ? none : still.number);
+        checks.due(run + "INNER of " + k, Checks.shown(reader, k, 2), still == null ? none : still.inner);
+        checks.due(run + "passed over of " + k, Checks.shown(reader, k, 3), still == null ? none : still.passed);
+        for (int plane = 0; plane < 3; plane++) {
+            checks.due(run + "sum(" + k + ", " + plane + ")", reader.sum(k, plane),
+                    still == null ? ReelReader.NONE : sumOf(still.dots[plane]));
         }
-        long sum = 0;
-        int width = dots[0].length;
-        for (int y = 0; y < dots.length; y++) {
-            for (int x = 0; x < width; x++) {
-                checks.due(run + "dot(" + k + ", " + plane + ", " + x + ", " + y + ")",
-                        reader.dot(k, plane, x, y), dots[y][x]);
-                sum += (long) dots[y][x] * (1 + y * width + x);
+    }
+
+    private static int sumOf(int[][] dots) {
+        int sum = 0;
+        int number = 0;
+        for (int[] row : dots) {
+            for (int dot : row) {
+                number++;
+                sum += dot * number;
             }
         }
-        checks.due(run + "sum(" + k + ", " + plane + ")", reader.sum(k, plane), (int) sum);
-        checks.due(run + "dot right of it", reader.dot(k, plane, width, 0), ReelReader.NONE);
-        checks.due(run + "dot below it", reader.dot(k, plane, 0, dots.length), ReelReader.NONE);
+        return sum;
+    }
+
+    /** One of the plane's dots, or one that is just outside of it. */
+    private static void compareDot(String run, int k, PlainModel.Still still, Chance chance) {
+        int plane = chance.below(3);
+        int[][] dots = still.dots[plane];
+        int y = chance.from(-1, dots.length);
+        int x = chance.from(-1, dots[0].length);
+        boolean outside = y < 0 || y == dots.length || x < 0 || x == dots[0].length;
+        checks.due(run + "dot(" + k + ", " + plane + ", " + x + ", " + y + ")",
+                reader.dot(k, plane, x, y), outside ? ReelReader.NONE : dots[y][x]);
     }
 }

@@ -46,7 +46,7 @@ final class PlainModel {
     private Still now;
     private int quant;
     private int r;
-    private static final int[] ZIGZAG = slants();
+    static final int[] ZIGZAG = slants();
 
     PlainModel(String bits) {
         StringBuilder whole = new StringBuilder(bits);
@@ -370,7 +370,8 @@ final class PlainModel {
         return x < 4 ? half[k][x] : k % 2 == 1 ? -half[k][7 - x] : half[k][7 - x];
     }
 
-    private static int[][] sums(int[] f) {
+    /** H by its y, then its x. */
+    static int[][] sums(int[] f) {
         long[][] g = new long[8][8];
         for (int v = 0; v < 8; v++) {
             for (int x = 0; x < 8; x++) {

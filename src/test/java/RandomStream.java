@@ -17,7 +17,7 @@ final class RandomStream {
         return slip > 0 && chance.oneIn(slip);
     }
 
-    String make(int pictures) {
+    BitText write(int pictures) {
         int across = chance.from(1, 4);
         int down = chance.from(1, 4);
         levels = chance.oneIn(3) ? 0 : chance.from(1, 4);
@@ -34,8 +34,7 @@ final class RandomStream {
             leanable += sort == 3 ? 0 : 1;
             picture(sort, across, down);
         }
-        text.end();
-        return text.toString();
+        return text.end();
     }
 
     private void picture(int sort, int across, int down) {
