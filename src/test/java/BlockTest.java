@@ -25,7 +25,9 @@ public final class BlockTest {
         weights();
         theLastBitIsTurned();
         sumsAreCosines();
+        sumsAreExact();
         sumsAreRoundedDown();
+        sumsAreRoundedAtTheirBounds();
         dotsAreHeld();
         dotsOfOthers();
         checks.finish();
@@ -311,6 +313,12 @@ public final class BlockTest {
         reader = checks.right("- 3 alone", BitText.codedFirst(1).u(64).s(-1).u(0), 2);
         isBlock("- 3 alone", reader, 1, 128, 63, -3);
         areUnlike("- 3 alone", 128, new int[] {63, -3}, 63, -4);
+        // Each block has a sum of its own: 3, and 3 again.
+        reader = checks.right("two odd ones", BitText.flatI(1, 1).picture(P, 1, 1).u(0).raw("0 0 1 0 110000")
+                .u(1).s(1).u(0).u(1).s(1).u(0), 2);
+        for (int i = 0; i < 64; i++) {
+            checks.due("two odd ones: dot", reader.dot(1, 0, 8 + i % 8, i / 8), reader.dot(1, 0, i % 8, i / 8));
+        }
         // - 8190 and 4002, which are even: the sum is that of what was held.
         reader = checks.right("held first", BitText.codedFirst(2).u(1).s(-2047).u(5).s(1000).u(0), 2);
         isBlock("held first", reader, 1, 128, 0, -2048, 2, 2047);
@@ -328,6 +336,30 @@ public final class BlockTest {
                 int dot = reader.dot(1, 0, i % 8, i / 8);
                 checks.due("place " + place + ", dot " + i + " is " + dot + " near " + ideal, Math.abs(dot - ideal) < 0.6, true);
             }
+        }
+    }
+
+    /** Blocks of many levels by chance: no cosine could be one more or less. */
+    private static void sumsAreExact() {
+        checks.sentence("G(v, x) = (sum of all u of F(8 v + u) C(u, x), and 1024) >> 11. "
+                + "H(x, y) = (sum of all v of G(v, x) C(v, y), and 16384) >> 15.");
+        for (int seed = 0; seed < 150; seed++) {
+            Chance chance = new Chance(seed);
+            BitText text = BitText.codedFirst(1);
+            int[] placed = new int[2 * 10 + 2];
+            int step = -1;
+            for (int i = 0; i < 10; i++) {
+                int further = chance.from(1, 6);
+                int level = chance.from(1, 150) * (chance.oneIn(2) ? 1 : -1);
+                text.u(further).s(level);
+                step += further;
+                placed[2 * i] = PlainModel.ZIGZAG[step];
+                placed[2 * i + 1] = 2 * level + Integer.signum(level);
+            }
+            // Ten odd ones are even together.
+            placed[20] = 63;
+            placed[21] = 1;
+            isBlock("stream " + seed, checks.right("stream " + seed, text.u(0), 2), 1, 128, placed);
         }
     }
 
@@ -349,6 +381,19 @@ public final class BlockTest {
         // Factor 5: G is (14480 + 1024) >> 11, 7; H is (20272 + 16384) >> 15, 1.
         reader = checks.right("5", BitText.codedFirst(1).u(1).s(2).u(0), 2);
         checks.due("5: dot", reader.dot(1, 0, 0, 0), 129);
+    }
+
+    /** With one more or less than 1024 or 16384 each of these dots would be another one. */
+    private static void sumsAreRoundedAtTheirBounds() {
+        checks.sentence("and 1024) >> 11. H(x, y) = (sum of all v of G(v, x) C(v, y), and 16384) >> 15.");
+        ReelReader reader = checks.right("1025", BitText.codedFirst(1).u(1).s(-2).u(1).s(72).u(0), 2);
+        checks.due("1025: dot", reader.dot(1, 0, 3, 1), 132);
+        reader = checks.right("1023", BitText.codedFirst(1).u(6).s(68).u(1).s(99).u(0), 2);
+        checks.due("1023: dot", reader.dot(1, 0, 5, 3), 154);
+        reader = checks.right("16385", BitText.codedFirst(1).u(5).s(-51).u(4).s(78).u(0), 2);
+        checks.due("16385: dot", reader.dot(1, 0, 1, 5), 127);
+        reader = checks.right("16383", BitText.codedFirst(1).u(4).s(92).u(6).s(71).u(0), 2);
+        checks.due("16383: dot", reader.dot(1, 0, 3, 2), 91);
     }
 
     private static void dotsAreHeld() {

@@ -15,6 +15,7 @@ public final class ForetellTest {
         roundedHalves();
         everyVector();
         outsideOfThePlane();
+        theEdgeItself();
         otherPlanesAreHalved();
         bothWays();
         checks.finish();
@@ -155,6 +156,33 @@ public final class ForetellTest {
         int[][] corners = {{-1024, -1024, 10}, {1023, -1024, 20}, {-1024, 1023, 30}, {1023, 1023, 40}};
         for (int[] one : corners) {
             checks.due("the corner of " + one[2], moved(fourBlocks(), one[0], one[1]).sum(1, 0), one[2] * 128 * 257);
+        }
+    }
+
+    /** No dot of this picture is like its neighbours. */
+    private static BitText rough() {
+        BitText text = new BitText().head(1, 1).picture(I, 1, 0).raw("0");
+        for (int b = 0; b < 6; b++) {
+            text.s(0).u(43).s(80).u(20).s(60).u(0);
+        }
+        return text.align();
+    }
+
+    private static void theEdgeItself() {
+        checks.sentence("DOTS outside of the PLANE are those nearest at its edge.");
+        // Beyond the plane by one dot and by many, on all four sides.
+        int[][] vectors = {{-64, 0}, {62, 0}, {0, -64}, {0, 62}, {-2, 0}, {2, 0}, {0, -2}, {0, 2}, {-1, 0}, {1, 0}, {0, -1}, {0, 1}};
+        for (int[] vector : vectors) {
+            ReelReader reader = moved(rough(), vector[0], vector[1]);
+            for (int i = 0; i < 16; i++) {
+                int x = vector[0] < 0 ? 0 : vector[0] > 0 ? 15 : i;
+                int y = vector[1] < 0 ? 0 : vector[1] > 0 ? 15 : i;
+                String what = "(" + vector[0] + ", " + vector[1] + "): dot " + x + ", " + y;
+                checks.due(what, reader.dot(1, 0, x, y), reader.dot(0, 0, x, y));
+                checks.due(what + " of the third plane", reader.dot(1, 2, x / 2, y / 2), reader.dot(0, 2, x / 2, y / 2));
+                int inside = vector[0] != 0 ? reader.dot(0, 0, x == 0 ? 1 : 14, y) : reader.dot(0, 0, x, y == 0 ? 1 : 14);
+                checks.due(what + " is unlike its neighbour", reader.dot(0, 0, x, y) != inside, true);
+            }
         }
     }
 
