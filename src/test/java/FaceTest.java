@@ -39,6 +39,12 @@ public final class FaceTest {
         checks.due("the members", seen.equals(wanted), true);
         checks.due("the class", ReelReader.class.getModifiers(), Modifier.PUBLIC | Modifier.FINAL);
         checks.due("its constructors", ReelReader.class.getConstructors().length, 1);
+        checks.due("all of its constructors", ReelReader.class.getDeclaredConstructors().length, 1);
+        for (Class<?> inside : ReelReader.class.getDeclaredClasses()) {
+            int modifiers = inside.getModifiers();
+            checks.due(inside + " is static", Modifier.isStatic(modifiers), true);
+            checks.due(inside + " can be seen", Modifier.isPublic(modifiers) || Modifier.isProtected(modifiers), false);
+        }
         checks.due("NONE", ReelReader.NONE, -1);
         checks.finish();
     }

@@ -97,20 +97,8 @@ public final class ModelTest {
         checks.due(run + "passed over of " + k, Checks.shown(reader, k, 3), still == null ? none : still.passed);
         for (int plane = 0; plane < 3; plane++) {
             checks.due(run + "sum(" + k + ", " + plane + ")", reader.sum(k, plane),
-                    still == null ? ReelReader.NONE : sumOf(still.dots[plane]));
+                    still == null ? ReelReader.NONE : PlainModel.sum(still.dots[plane]));
         }
-    }
-
-    private static int sumOf(int[][] dots) {
-        int sum = 0;
-        int number = 0;
-        for (int[] row : dots) {
-            for (int dot : row) {
-                number++;
-                sum += dot * number;
-            }
-        }
-        return sum;
     }
 
     /** One of the plane's dots, or one that is just outside of it. */

@@ -436,4 +436,17 @@ final class PlainModel {
         int row = Math.max(0, Math.min(plane.length - 1, y));
         return plane[row][Math.max(0, Math.min(plane[row].length - 1, x))];
     }
+
+    /** What sum() answers of a plane. */
+    static int sum(int[][] dots) {
+        int sum = 0;
+        int number = 0;
+        for (int[] row : dots) {
+            for (int dot : row) {
+                sum += dot * (1 + number);
+                number++;
+            }
+        }
+        return sum;
+    }
 }
